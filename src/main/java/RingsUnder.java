@@ -1677,7 +1677,7 @@ public final class RingsUnder {
             } else if (isLetter(tape[at])) {
                 takeWord();
             } else {
-                token = signOf((char) tape[at]);
+                token = signOf(tape[at]);
                 at++;
                 takeLonger();
             }
@@ -1723,7 +1723,7 @@ public final class RingsUnder {
             }
         }
 
-        private static int signOf(char sign) {
+        private static int signOf(int sign) {
             switch (sign) {
                 case '<':
                     return LESS;
