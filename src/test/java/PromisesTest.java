@@ -549,6 +549,16 @@ final class PromisesTest {
         faulty("may age+1)>2;", 1, 9);
         faulty("may age 10000>2;", 1, 8);
         faulty("may older>2;", 1, 4);
+        faulty("may agez>2;", 1, 4);
+        faulty("may ageZ>2;", 1, 4);
+        faulty("may ageA>2;", 1, 4);
+        faulty("may agea>2;", 1, 4);
+        faulty("may age@>2;", 1, 7);
+        faulty("may age7>2;", 1, 7);
+        faulty("may (not age>2;", 1, 5);
+        faulty("may -not age>2;", 1, 5);
+        faulty("may not -not age>2;", 1, 9);
+        faulty("may 1+not age>2;", 1, 6);
         faulty("order;", 1, 5);
         faulty("order age kin;", 1, 10);
         faulty("order 5;", 1, 6);
@@ -905,6 +915,9 @@ final class PromisesTest {
         due("as it was", x.area(), 29);
         x.months(1, 0);
         due("without", x.area(), 0);
+        x.force(read(x, "fix 0;"), 8, 9);
+        x.months(1, 0);
+        due("as it was in month 0", x.area(), 58);
     }
 
     private static void boats() {
@@ -1157,6 +1170,19 @@ final class PromisesTest {
         due("the first stays", x.about(12), 2);
         x.sail(0, 20);
         due("later", x.cant(0, 9), 5);
+        RingsUnder y = new RingsUnder();
+        y.ring();
+        y.cell(0, 100, 0, 0, 0, 0);
+        y.wall(0, 1);
+        y.rules(0, 0, 0, 20, 33);
+        enact(y, "fix 0;");
+        y.level(0, 0, true, 0);
+        y.level(0, 5, true, 200);
+        y.months(1, 0);
+        due("33 of a sea that stays", y.about(8), 0);
+        due("fixed ahead of the clock", y.cant(0, 9), NONE);
+        y.force(read(y, "fix 5;"), 1, 599);
+        due("not fixed yet, and under water", y.cant(0, 9), 1);
         int[][] bad = {{-1, 4}, {3, 4}, {0, 0}, {0, 61}};
         for (int[] b : bad) {
             due("cant(" + java.util.Arrays.toString(b), x.cant(b[0], b[1]), NONE);
@@ -1265,6 +1291,7 @@ final class PromisesTest {
         due("by graves", x.found(2, 1), 2);
         due("i", x.found(0, -1), NONE);
         due("cell", x.found(3, 0), NONE);
+        due("cell", x.found(64, 0), NONE);
         due("cell", x.found(-1, 0), NONE);
     }
 
@@ -1329,6 +1356,14 @@ final class PromisesTest {
         x.months(1, 0);
         due("area", x.area(), 29);
         due("reef", x.cellOf(0, 3), 1);
+        RingsUnder y = high();
+        y.cell(0, 0, 0, 0, 0, 0);
+        y.grave(0);
+        y.image();
+        y.bury(0, 1);
+        y.back();
+        due("it lies where it lay", y.found(0, 0), 0);
+        due("where it never lay", y.found(1, 0), NONE);
     }
 
     private static void about() {

@@ -100,15 +100,16 @@ final class RandomRunsTest {
 
     /** A country to begin with, so that the calls behind it have something to meet. */
     private void settle() {
-        int rings = 1 + random.nextInt(5);
+        boolean full = random.nextInt(12) == 0;
+        int rings = full ? 5 : 1 + random.nextInt(5);
         for (int i = 0; i < rings; i++) {
             due("ring", x.ring(), y.ring());
         }
-        int cells = 1 + random.nextInt(14);
+        int cells = full ? 44 : 1 + random.nextInt(14);
         for (int i = 0; i < cells; i++) {
             call(2);
         }
-        for (int i = random.nextInt(6); i > 0; i--) {
+        for (int i = full ? 20 : random.nextInt(6); i > 0; i--) {
             call(6);
             call(7);
             call(8);
@@ -116,15 +117,18 @@ final class RandomRunsTest {
             call(10);
             call(3);
         }
-        for (int i = random.nextInt(25); i > 0; i--) {
+        for (int i = full ? 44 : random.nextInt(25); i > 0; i--) {
             call(11);
         }
         for (int i = random.nextInt(5); i > 0; i--) {
             tellText();
         }
-        for (int i = random.nextInt(9); i > 0; i--) {
+        for (int i = full ? 34 : random.nextInt(9); i > 0; i--) {
             call(15);
             call(23);
+            if (full) {
+                call(38);
+            }
         }
         call(24);
         if (random.nextInt(8) == 0) {
