@@ -1956,7 +1956,13 @@ public final class RingsUnder {
                 return true;
             }
             if (brackets > 0) {
-                closeBracket(token);
+                if (token != RIGHT) {
+                    refuse(CANT_STAND);
+                }
+                settle(1);
+                brackets--;
+                open--;
+                waits = Math.max(0, waits - 1);
                 return false;
             }
             if (!compared && token >= LESS && token <= UNLIKE) {
@@ -1978,17 +1984,6 @@ public final class RingsUnder {
             settle(1);
             closed = true;
             return false;
-        }
-
-        private void closeBracket(int token) {
-            if (token != RIGHT) {
-                refuse(CANT_STAND);
-                return;
-            }
-            settle(1);
-            brackets--;
-            open--;
-            waits = Math.max(0, waits - 1);
         }
 
         /** How close a TOKEN holds what is beside it; a bracket holds till it is closed. */
