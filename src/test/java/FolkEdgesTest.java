@@ -315,6 +315,19 @@ final class FolkEdgesTest extends Check {
         due("the first", x.titleOf(0, 0), NONE);
         due("the last", x.titleOf(39, 0), NONE);
         due("nobody's doesn't stand", x.titleOf(0, 1), 0);
+        RingsUnder y = rings(1);
+        for (int p = 0; p < 40; p++) {
+            y.person(p == 39 ? 3 : 2, 0, 0, 0, 0);
+        }
+        y.title(0, 39);
+        due("one of forty, without kin", y.death(39), 1);
+        due("nobody", y.titleOf(0, 0), NONE);
+        y.title(0, 0);
+        enact(y, "heir -age;");
+        for (int p = 0; p < 39; p++) {
+            due("from one to the next", y.death(p), 1);
+            due("the next", y.titleOf(0, 0), p < 38 ? p + 1 : NONE);
+        }
     }
 
     private static void heirs() {

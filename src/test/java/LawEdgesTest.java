@@ -25,6 +25,7 @@ final class LawEdgesTest extends Check {
         leastOfOne();
         open();
         openAgain();
+        openInOneWithFault();
         second();
         latestFault();
         forces();
@@ -149,6 +150,9 @@ final class LawEdgesTest extends Check {
         faulty(" ".repeat(299) + "?", 1, 299);
         faulty(" ".repeat(300), 0, NONE);
         faulty("a".repeat(300), 1, 0);
+        faulty(" ".repeat(298) + "ma", 1, 298);
+        faulty(" ".repeat(297) + "may", 1, 300);
+        faulty("may 1" + " ".repeat(294) + "<", 1, 300);
         faulty("fix " + "0".repeat(293) + "599;", 1, 300);
         faulty("fix " + "0".repeat(292) + "599;", 0, NONE);
         faulty("fix " + "9".repeat(295) + ";", 2, 4);
@@ -296,6 +300,7 @@ final class LawEdgesTest extends Check {
             faulty(sort + " (age);", 1, 6);
             faulty(sort + " ,age;", 1, 6);
             faulty(sort + " age,,kin;", 1, 10);
+            faulty(sort + " age)kin;", 1, 9);
         }
     }
 
@@ -346,6 +351,7 @@ final class LawEdgesTest extends Check {
         faulty("may (1<2;", 1, 6);
         faulty("may (1;", 1, 6);
         faulty("may 1)<2;", 1, 5);
+        faulty("may (1,<2;", 1, 6);
         faulty("may 1<2);", 1, 7);
         faulty("may (1+2 and 3)<2;", 1, 9);
         faulty("may (1+2 3)<2;", 1, 9);
@@ -576,6 +582,24 @@ final class LawEdgesTest extends Check {
         faulty("order -age,-kin,-craft,-place;may --------1=1;", 0, NONE);
     }
 
+    private static void openInOneWithFault() {
+        promise = "what was open in a TEXT with a FAULT isn't in the next";
+        String[] bad = {"may ((((((((1 ?", "may not not not not not not not not ?", "may --------?", "may not -(2*(3+-(4/", "may 1*2+3*-",
+            "may not 1=1 and not 1+2*3", "order age,kin,craft,place,", "may (((((((((1"};
+        String[] good = {"people ((((((((30))))))))=age;", "people not not not not not not not not 30=age;", "people --------30=age;",
+            "people 30=age;", "people 2+3*4=14 and age=30;", "order age,kin,craft,place;people 1=1;"};
+        for (String b : bad) {
+            RingsUnder x = high();
+            x.person(2, 30, 3, 0, 0);
+            for (int i = 0; i < good.length; i++) {
+                due(b, read(x, b), NONE);
+                due(good[i] + " behind " + b, read(x, good[i]), i);
+                x.force(i, 0, 0);
+                due("is it so", x.is(0, 0, 0), 1);
+            }
+        }
+    }
+
     private static void second() {
         promise = "4 order, heir, council, fix, leave for the second time (at it)";
         String[] once = {"order age;", "heir age;", "council 1;", "fix 1;", "leave 1;"};
@@ -714,14 +738,22 @@ final class LawEdgesTest extends Check {
         x.force(read(x, "vote age=20;vote 1=1;"), 0, 0);
         due("the first", x.why(2, 0, 0), 0);
         due("the second", x.why(2, 1, 0), 1);
+        x.force(read(x, "people under=0;order age;heir kin;council 9;"), 0, 0);
+        due("under is 0", x.why(0, 0, 0), 0);
+        for (int what = 3; what < 9; what++) {
+            due("why " + what, x.why(what, 0, 0), NONE);
+            due("is " + what, x.is(what, 0, 0), NONE);
+        }
+        due("lasts is no matter of persons", x.why(-1, 0, 0), NONE);
     }
 
     private static void keysInOrder() {
         promise = "order: KEYS one behind the other, the least first (with -: the greatest), then by numbers; without: by numbers";
         int[][] persons = {{0, 30, 5}, {1, 20, 5}, {2, 30, 4}, {3, 99, 0}, {4, 0, 7}};
         String[] laws = {"", "order age;", "order -age;", "order age,craft;", "order -craft,-age;", "order under,month,place,-kin;",
-            "order -craft,age,kin,kin;"};
-        int[][] due = {{0, 1, 2, 3, 4}, {4, 1, 0, 2, 3}, {3, 0, 2, 1, 4}, {4, 1, 2, 0, 3}, {4, 0, 1, 2, 3}, {4, 3, 2, 1, 0}, {4, 1, 0, 2, 3}};
+            "order -craft,age,kin,kin;", "may 1=1;order month;heir -kin;", "order under;heir -age,-kin;"};
+        int[][] due = {{0, 1, 2, 3, 4}, {4, 1, 0, 2, 3}, {3, 0, 2, 1, 4}, {4, 1, 2, 0, 3}, {4, 0, 1, 2, 3}, {4, 3, 2, 1, 0}, {4, 1, 0, 2, 3},
+            {0, 1, 2, 3, 4}, {0, 1, 2, 3, 4}};
         for (int i = 0; i < laws.length; i++) {
             RingsUnder x = high();
             x.lot(60);

@@ -14,6 +14,7 @@ final class MonthEdgesTest extends Check {
         bedsGivenUp();
         drinkByNumbers();
         drinkByCells();
+        ringWithoutCells();
         sleep();
         whoIsNotOnRings();
         leaveIsCut();
@@ -24,6 +25,8 @@ final class MonthEdgesTest extends Check {
         bedsForThem();
         kinOfThatRing();
         notLookedAtAgain();
+        allLotsFull();
+        fortyByOrder();
         boatsEachMonth();
         boatsLast();
         sailing();
@@ -319,6 +322,20 @@ final class MonthEdgesTest extends Check {
         due("the sixth isn't needed", x.cellOf(5, 7), 80);
     }
 
+    private static void ringWithoutCells() {
+        promise = "the first SWEET WELL of that RING; a RING may have no CELL";
+        RingsUnder x = rings(1);
+        x.ring();
+        x.well(0, 1, 100, 0);
+        x.table(0, 0, 500, 25, 5, 0);
+        x.beds(0, 20);
+        x.person(0, 0, 0, 1, 0);
+        x.months(1, 0);
+        due("nothing to drink", x.personOf(0, 5), 1);
+        due("no bed", x.personOf(0, 6), 1);
+        due("another ring's well", x.cellOf(0, 7), 100);
+    }
+
     private static void sleep() {
         promise = "of each RING as many as its CELLS have BEDS, by numbers, others have NO BED";
         RingsUnder x = rings(2);
@@ -544,6 +561,42 @@ final class MonthEdgesTest extends Check {
         x.months(1, 0);
         due("looked at in the next", x.personOf(0, 0) * 1000 + x.personOf(5, 0), 101101);
         due("went", x.personOf(0, 7), 1);
+    }
+
+    private static void allLotsFull() {
+        promise = "a LOT has free BEDS for them (the first), of five";
+        RingsUnder x = rings(1);
+        for (int l = 0; l < 5; l++) {
+            x.lot(1);
+        }
+        for (int i = 0; i < 7; i++) {
+            x.person(i, 0, 0, 0, 0);
+        }
+        x.sail(40, 0);
+        x.months(1, 0);
+        for (int i = 0; i < 7; i++) {
+            due("place of " + i, x.personOf(i, 0), i < 5 ? 100 + i : 0);
+        }
+        x.go(2, 200);
+        x.months(1, 0);
+        due("the bed that was left", x.personOf(5, 0), 102);
+        due("full again", x.personOf(6, 0), 0);
+    }
+
+    private static void fortyByOrder() {
+        promise = "PERSONS on RINGS for whom may is so, by order: all forty";
+        RingsUnder x = rings(5);
+        x.lot(60);
+        for (int p = 0; p < 40; p++) {
+            x.person(p % 10, 50 - p, 0, p / 8, 0);
+        }
+        enact(x, "order age;");
+        x.sail(1, 0);
+        for (int m = 0; m < 40; m++) {
+            x.months(1, 0);
+            due("the youngest of those left", x.personOf(39 - m, 7), m);
+        }
+        due("all forty", x.at(100), 40);
     }
 
     private static void boatsEachMonth() {

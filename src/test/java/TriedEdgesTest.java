@@ -14,6 +14,10 @@ final class TriedEdgesTest extends Check {
         orderOfLikeOnes();
         orderOfAllRings();
         orderOfTheseMonths();
+        orderTurnedRound();
+        orderOfLittleWater();
+        orderOfBedsGivenUp();
+        orderOfForty();
         orderInsteadOfOrder();
         orderByNumbersThen();
         whichRing();
@@ -25,6 +29,8 @@ final class TriedEdgesTest extends Check {
         imageStays();
         back();
         backBehindAndAhead();
+        backToThirst();
+        backToTides();
         about();
         conclude();
     }
@@ -332,6 +338,85 @@ final class TriedEdgesTest extends Check {
         due("the bed as it was", x.cellOf(0, 6), 1);
     }
 
+    private static void orderTurnedRound() {
+        promise = "THE ORDER: in some order, the last of 120 too";
+        RingsUnder x = rings(5);
+        x.lot(60);
+        for (int p = 0; p < 40; p++) {
+            int ring = p < 6 ? 0 : p < 13 ? 1 : p < 21 ? 2 : p < 30 ? 3 : 4;
+            x.person(ring, 0, 0, ring, 0);
+        }
+        x.sail(10, 0);
+        due("ten, nine, eight, seven, six", order(x, 0, 5, 5), "43210: " + 2 * (40 + 30 + 21 + 13 + 6));
+        due("in three months the last two are alike", order(x, 0, 3, 5), "43012: " + 2 * (40 + 30 + 21));
+    }
+
+    private static void orderOfLittleWater() {
+        promise = "THE ORDER: WELLS are in each order as they are now";
+        RingsUnder x = rings(2);
+        x.lot(60);
+        for (int t = 0; t < 12; t++) {
+            x.table(t, 0, 500, 25, 5, 0);
+        }
+        x.well(0, 1, 30, 0);
+        x.well(1, 1, 10, 0);
+        x.beds(0, 20);
+        x.beds(1, 20);
+        x.person(0, 0, 0, 0, 0);
+        x.person(1, 0, 0, 1, 0);
+        x.sail(1, 0);
+        due("ring 0 has water for three months, ring 1 for one", order(x, 0, 3, 2), "10: 0");
+        due("lens", x.cellOf(0, 7) * 100 + x.cellOf(1, 7), 3010);
+    }
+
+    private static void orderOfBedsGivenUp() {
+        promise = "THE ORDER: BEDS as they are given up in its MONTHS";
+        RingsUnder x = new RingsUnder();
+        x.ring();
+        x.ring();
+        x.cell(0, 1000, 0, 0, 0, 0);
+        x.cell(1, 800, 0, 0, 0, 0);
+        x.rules(0, 0, 0, 1, 0);
+        x.lot(60);
+        x.beds(0, 20);
+        x.beds(1, 20);
+        x.well(0, 20, 1000, 0);
+        x.well(1, 20, 1000, 0);
+        x.person(0, 0, 0, 0, 0);
+        x.person(1, 0, 0, 1, 0);
+        x.level(0, 0, true, 0);
+        x.level(0, 1, true, 400);
+        x.level(0, 2, true, 0);
+        x.sail(1, 0);
+        due("in one nothing lacks", order(x, 0, 1, 2), "01: 0");
+        due("ring 1 is given up in the second", order(x, 0, 2, 2), "10: 0");
+        x.sail(0, 0);
+        due("without boats: in the second and the third", order(x, 0, 3, 2), "01: 2");
+        due("they are there still", x.cellOf(1, 6), 20);
+    }
+
+    private static void orderOfForty() {
+        promise = "THE ORDER of forty PERSONS, some elsewhere; may by what they are";
+        RingsUnder x = rings(2);
+        x.lot(60);
+        for (int p = 0; p < 40; p++) {
+            x.person(p % 10, p, p % 8, p % 2, 0);
+        }
+        x.go(0, 200);
+        x.go(39, 100);
+        x.death(38);
+        x.sail(40, 0);
+        due("37 of forty, all go", order(x, 0, 2, 2), "01: 74");
+        x.sail(1, 0);
+        enact(x, "may age=35 or age=34;");
+        x.beds(0, 20);
+        due("34 on ring 0 has a bed, 35 on ring 1 has none", order(x, 0, 2, 2), "10: " + (37 + 19 + 36 + 18));
+        enact(x, "may kin=5 and craft=3;");
+        due("35 alone", order(x, 0, 2, 2), "01: " + (37 + 19 + 36 + 18));
+        enact(x, "may place=100 or place=200;");
+        due("nobody on rings", order(x, 0, 2, 2), "01: " + 2 * (37 + 19));
+    }
+
     private static void orderInsteadOfOrder() {
         promise = "instead of order PERSONS go by RINGS; may is as it is";
         RingsUnder x = rings(2);
@@ -564,6 +649,70 @@ final class TriedEdgesTest extends Check {
         due("image", x.image(), 120);
         due("back", x.back(), 120);
         due("cells come in month 0 alone", x.cell(0, 0, 0, 0, 0, 0), NONE);
+    }
+
+    private static void backToThirst() {
+        promise = "BACK: THIRST, NO BED and BOATS of each PERSON are so again";
+        RingsUnder x = rings(1);
+        x.lot(5);
+        x.person(0, 0, 0, 0, 0);
+        x.person(1, 0, 0, 0, 0);
+        x.sail(1, 0);
+        x.months(3, 0);
+        x.go(0, 0);
+        x.image();
+        x.months(4, 0);
+        due("the latest", x.personOf(0, 7), 3);
+        due("thirst", x.about(15), 4);
+        x.back();
+        due("thirst", x.personOf(0, 5) * 10 + x.personOf(1, 5), 12);
+        due("no bed", x.personOf(0, 6) * 10 + x.personOf(1, 6), 12);
+        due("went", x.personOf(0, 7) * 10 + x.personOf(1, 7), 1);
+        due("thirst of all", x.about(15), 3);
+        due("no bed of all", x.about(16), 3);
+        due("place", x.personOf(0, 0), 0);
+        due("one comes", x.person(5, 0, 0, 0, 0), 2);
+        x.months(1, 0);
+        x.back();
+        due("another comes", x.person(6, 0, 0, 0, 0), 2);
+        due("without thirst", x.personOf(2, 5) + x.personOf(2, 6) + x.personOf(2, 7), NONE);
+    }
+
+    private static void backToTides() {
+        promise = "BACK: what was DRY and a ROCK in the latest MONTH, and the TABLES";
+        RingsUnder x = new RingsUnder();
+        x.ring();
+        x.cell(0, 100, 9, 9, 0, 0);
+        x.cell(0, 900, 20, 20, 0, 0);
+        x.person(0, 0, 0, 0, 0);
+        x.title(0, 0);
+        x.title(1, 0);
+        x.rules(0, 0, 0, 1, 0);
+        x.table(2, 50, 500, 25, 5, 20);
+        x.level(0, 0, true, 0);
+        x.level(0, 1, true, 600);
+        x.level(0, 2, true, 0);
+        x.months(1, 0);
+        x.image();
+        for (int i = 0; i < 2; i++) {
+            x.table(2, 200, 2000, 25, 5, 20);
+            due("a trial doesn't bring it back", x.sinks(1, 0, 2), 1);
+            x.months(2, 0);
+            due("nothing is dry", x.cellOf(0, 10) + x.cellOf(1, 10), 0);
+            due("the first is no rock", x.cellOf(0, 11) * 10 + x.cellOf(1, 11), 1);
+            due("under", x.cellOf(0, 9) * 10 + x.cellOf(1, 9), 32);
+            due("no title stands", x.titleOf(0, 1) + x.titleOf(1, 1), 0);
+            x.back();
+            due("the second is dry", x.cellOf(0, 10) * 10 + x.cellOf(1, 10), 1);
+            due("both are rocks", x.cellOf(0, 11) * 10 + x.cellOf(1, 11), 11);
+            due("under", x.cellOf(0, 9) * 10 + x.cellOf(1, 9), 10);
+            due("one title stands", x.titleOf(0, 1) * 10 + x.titleOf(1, 1), 1);
+            due("area", x.area(), 10);
+            x.months(2, 0);
+            due("low is 50 again", x.cellOf(0, 11), 1);
+            due("high is 500 again", x.cellOf(1, 10), 1);
+            x.back();
+        }
     }
 
     private static void about() {
