@@ -1023,6 +1023,15 @@ public final class RingsUnder {
             }
         }
 
+        /** The first CELL of a RING, from one of its CELLS on, whose WELL is SWEET; NONE without. */
+        int sweetFrom(int cell) {
+            int c = cell;
+            for (int i = 0; i < cells && c != NONE && !wells.isSweet(c); i++) {
+                c = next[c];
+            }
+            return c;
+        }
+
         /** BEDS of each RING's CELLS together, from a place of the row on. */
         void countBeds(int[] row, int from) {
             if (from < 0 || from + RINGS > row.length) {
@@ -1268,10 +1277,7 @@ public final class RingsUnder {
             int thirsty = 0;
             for (int p = 0; p < persons; p++) {
                 if (isOnRing(p)) {
-                    int well = ofRing[place[p]];
-                    while (well != NONE && !land.wells.isSweet(well)) {
-                        well = land.next[well];
-                    }
+                    int well = land.sweetFrom(ofRing[place[p]]);
                     ofRing[place[p]] = well;
                     if (well == NONE) {
                         thirst[p]++;
