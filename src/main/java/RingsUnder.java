@@ -2039,6 +2039,8 @@ public final class RingsUnder {
     /** THE ORDER of RINGS by which fewest have THIRST or NO BED. */
     private static final class RingOrders {
         private static final int MOST_ORDERS = 120;
+        /** Each PERSON has THIRST and NO BED once in a MONTH at most. */
+        private static final int MORE_THAN_LACK = 2 * PERSONS * LONGEST_ORDER + 1;
 
         int least;
         final int[] best = new int[RINGS];
@@ -2057,7 +2059,7 @@ public final class RingsUnder {
             for (int i = 0; i < rings; i++) {
                 order[i] = i;
             }
-            least = Integer.MAX_VALUE;
+            least = MORE_THAN_LACK;
             boolean more = true;
             for (int i = 0; i < MOST_ORDERS && more; i++) {
                 int lacks = lacksOf(now, trial, Math.min(n, LONGEST_ORDER));

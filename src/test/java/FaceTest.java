@@ -17,7 +17,15 @@ final class FaceTest {
         "back/0", "about/1");
     private static final List<String> FORBIDDEN = List.of("throw", "try", "catch", "synchronized", "assert", "import",
         "package", "Thread", "System.out", "System.nano", "System.current", "->", "::", "new int[]", "@");
+    /** What stands in rule 4 and is written with a name and a dot ahead of it; all else of the library is refused. */
+    private static final Set<String> LIBRARY = Set.of("Math.abs", "Math.min", "Math.max", "Math.floorDiv", "Math.floorMod",
+        "Integer.compare", "Integer.bitCount", "Long.compare", "Long.bitCount", "System.arraycopy", "Arrays.fill",
+        "Arrays.copyOf", "Arrays.copyOfRange", "List.of");
+    private static final java.util.regex.Pattern DOTTED =
+        java.util.regex.Pattern.compile("\\b(Math|Integer|Long|System|Arrays|List|String|Character|Double|Float|Boolean|Short|Byte|Object|Objects)\\.(\\w+)");
     private static final int MOST_CLASSES = 12;
+    private static final int MOST_FIELDS = 20;
+    private static final int MOST_PARAMETERS = 7;
 
     private static int wrong = 0;
 
@@ -52,11 +60,26 @@ final class FaceTest {
         due(face.getDeclaredClasses().length < MOST_CLASSES, "there are some twelve classes");
         for (Class<?> inside : face.getDeclaredClasses()) {
             due(Modifier.isStatic(inside.getModifiers()) && !Modifier.isPublic(inside.getModifiers()), inside + " is static, not public");
+            sizes(inside, names);
         }
+        sizes(face, Set.of());
         source();
         System.out.println(wrong == 0 ? "the face is as due" : wrong + " things are not as due");
         if (wrong > 0) {
             System.exit(1);
+        }
+    }
+
+    private static void sizes(Class<?> of, Set<String> faceNames) {
+        int fields = 0;
+        for (var f : of.getDeclaredFields()) {
+            due(!Modifier.isStatic(f.getModifiers()) || Modifier.isFinal(f.getModifiers()), f + " is final, as it is static");
+            fields += Modifier.isStatic(f.getModifiers()) ? 0 : 1;
+        }
+        due(fields <= MOST_FIELDS, of + " has some twenty fields at most, not " + fields);
+        for (var m : of.getDeclaredMethods()) {
+            due(m.getParameterCount() <= MOST_PARAMETERS, m + " takes at most seven parameters");
+            due(!faceNames.contains(m.getName()), m + " doesn't bear the name of a public one");
         }
     }
 
@@ -65,12 +88,17 @@ final class FaceTest {
         for (String line : Files.readAllLines(Path.of("src/main/java/RingsUnder.java"))) {
             number++;
             String code = line.strip();
+            due(code.chars().allMatch(sign -> sign > 0 && sign < 128), "line " + number + " has signs 1 to 127 alone");
             if (code.startsWith("/**") || code.startsWith("*") || code.startsWith("//")) {
                 continue;
             }
             for (String word : FORBIDDEN) {
                 boolean whole = code.matches(".*(^|\\W)" + java.util.regex.Pattern.quote(word) + "(\\W|$).*");
                 due(!whole, "line " + number + " has " + word);
+            }
+            var dotted = DOTTED.matcher(code);
+            while (dotted.find()) {
+                due(LIBRARY.contains(dotted.group()), "line " + number + " has " + dotted.group());
             }
         }
     }

@@ -18,6 +18,7 @@ final class TriedEdgesTest extends Check {
         orderOfLittleWater();
         orderOfBedsGivenUp();
         orderOfForty();
+        orderOfMostLacks();
         orderInsteadOfOrder();
         orderByNumbersThen();
         whichRing();
@@ -415,6 +416,22 @@ final class TriedEdgesTest extends Check {
         due("35 alone", order(x, 0, 2, 2), "01: " + (37 + 19 + 36 + 18));
         enact(x, "may place=100 or place=200;");
         due("nobody on rings", order(x, 0, 2, 2), "01: " + 2 * (37 + 19));
+    }
+
+    private static void orderOfMostLacks() {
+        promise = "THIRST and NO BED of these MONTHS together (as many as there can be); of like ones the first by RINGS' numbers";
+        RingsUnder x = rings(2);
+        x.lot(3);
+        x.person(0, 30, 0, 0, 0);
+        x.person(1, 30, 0, 1, 0);
+        x.person(1, 30, 0, 1, 0);
+        for (int i = 3; i < 40; i++) {
+            x.person(2, 30, 0, 0, 0);
+        }
+        x.sail(2, 0);
+        due("the two of ring 1 ahead of the one of ring 0", order(x, 0, 2, 2), "10: 156");
+        x.sail(0, 0);
+        due("all lack all for twelve months, whoever is first", order(x, 0, 12, 2), "01: 960");
     }
 
     private static void orderInsteadOfOrder() {
